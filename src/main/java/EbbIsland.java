@@ -1506,13 +1506,18 @@ public final class EbbIsland {
         }
 
         int levelOn(int day, int tick) {
-            if (!has(levelDays, day)) {
-                for (int t = 0; t < TICKS; t++) {
-                    levels[day * TICKS + t] = (byte) island.rule.level(day, t, island.wind);
-                }
-                levelDays |= 1L << day;
-            }
+            learnLevels(day);
             return levels[day * TICKS + tick];
+        }
+
+        private void learnLevels(int day) {
+            if (has(levelDays, day)) {
+                return;
+            }
+            for (int t = 0; t < TICKS; t++) {
+                levels[day * TICKS + t] = (byte) island.rule.level(day, t, island.wind);
+            }
+            levelDays |= 1L << day;
         }
 
         int arrival(int party, int day, int tick) {
@@ -1575,16 +1580,15 @@ public final class EbbIsland {
                 places[t] = cellsBefore(t, last);
             }
             int cell = home;
+            int stepEnds = first;
             row[base + first] = cell;
-            int tick = first;
-            while (tick < last) {
-                int next = nextCell(cell, tick, last);
-                int until = next == cell ? tick + 1 : Math.min(tick + step, last);
-                while (tick < until) {
-                    tick++;
-                    row[base + tick] = next;
+            for (int t = first + 1; t <= last; t++) {
+                if (t > stepEnds) {
+                    int next = nextCell(cell, t - 1, last);
+                    stepEnds = next == cell ? t : t - 1 + step;
+                    cell = next;
                 }
-                cell = next;
+                row[base + t] = cell;
             }
         }
 
@@ -1594,9 +1598,13 @@ public final class EbbIsland {
             home = sands.wide * who.row;
             step = Math.max(1, (kind == RUN ? (who.speed + 1) / 2 : who.speed) + strength);
             long firm = sands.firmFor(who.load, day);
+            learnLevels(day);
+            int before = NONE;
             for (int t = 0; t < TICKS; t++) {
-                int level = wind == island.wind ? levelOn(day, t) : island.rule.level(day, t, wind);
-                safe[t] = sands.safeFor(kind, who.load, level, firm);
+                int level = wind == island.wind ? levels[day * TICKS + t] : island.rule.level(day, t, wind);
+                // The water mostly stands for some ticks.
+                safe[t] = level == before && t > 0 ? safe[t - 1] : sands.safeFor(kind, who.load, level, firm);
+                before = level;
             }
         }
 
