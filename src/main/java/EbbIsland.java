@@ -60,6 +60,7 @@ public final class EbbIsland {
     private static final int MOST_NOTS = 6;
     private static final int MOST_WAITING = 96;
     private static final int MOST_VALUES = 64;
+    private static final int MOST_DIVISIONS = 64;
 
     // What stands in a rule beside its numbers, which are 0 and above.
     private static final int HOUR_VALUE = -1;
@@ -597,7 +598,7 @@ public final class EbbIsland {
     private static int commonPart(int a, int b) {
         int whole = a;
         int rest = b;
-        for (int i = 0; i < MOST_VALUES && rest != 0; i++) {
+        for (int i = 0; i < MOST_DIVISIONS && rest != 0; i++) {
             int next = whole % rest;
             whole = rest;
             rest = next;
@@ -1065,8 +1066,7 @@ public final class EbbIsland {
             if (sign == OPEN) {
                 return closeExpr();
             }
-            int rank = rankOfSign(sign);
-            release(rank);
+            release(rankOfSign(sign));
             hold(sign);
             if (sign == OR || sign == AND) {
                 beginTest();
