@@ -1,95 +1,47 @@
-import java.nio.charset.StandardCharsets;
-import java.util.NoSuchElementException;
-
 /** One method for each promise of the document: ordinary inputs, the edges that it names, wrong inputs. */
-public final class PromisesTest {
-    private static final int NONE = EbbIsland.NONE;
-    private static final int LEAST = Integer.MIN_VALUE;
-    private static final int MOST = Integer.MAX_VALUE;
+public final class PromisesTest extends Checks {
     private static final String FOUR = "sands 4 2;walk 2 3 0 5;run 3 0 1 2;horse 1 7 0 3;stilts 4 1 1 0;"
             + "quick 1 0;quick 2 1;moves 1 0;quarrel 0 1;ebb 1;wait 3;fog 1 0 2 1;";
     private static final String STRAIT = "sands 3 1;ladder 1 0;walk 1 0 0 0;walk 2 5 0 0;ebb 2;";
-    private static int checked;
-    private static int wrong;
-    private static int promise;
-
-    private interface Call {
-        long answer();
-    }
 
     public static void main(String[] args) {
-        Runnable[] all = {
-            PromisesTest::newObject, PromisesTest::feed, PromisesTest::island, PromisesTest::fault, PromisesTest::count,
-            PromisesTest::cell, PromisesTest::quick, PromisesTest::water, PromisesTest::party, PromisesTest::may,
-            PromisesTest::cross, PromisesTest::way, PromisesTest::starts, PromisesTest::book, PromisesTest::undo,
-            PromisesTest::booked, PromisesTest::at, PromisesTest::met, PromisesTest::crowded, PromisesTest::leave,
-            PromisesTest::burials, PromisesTest::buried, PromisesTest::queue, PromisesTest::heir, PromisesTest::sink,
-            PromisesTest::forget, PromisesTest::motions, PromisesTest::sound, PromisesTest::late, PromisesTest::costs,
-            PromisesTest::vigil, PromisesTest::rents, PromisesTest::warning, PromisesTest::fogs, PromisesTest::image,
-            PromisesTest::restore};
-        for (Runnable one : all) {
-            promise++;
-            int before = checked;
-            one.run();
-            if (checked == before) {
-                due("checks", 0, 1);
-            }
-        }
-        System.out.println("PromisesTest: " + checked + " checks of " + all.length + " promises, " + wrong + " wrong");
-        System.exit(wrong == 0 ? 0 : 1);
-    }
-
-    private static void due(String what, long got, long want) {
-        checked++;
-        if (got != want) {
-            wrong++;
-            System.out.println("promise " + promise + ": " + what + " answered " + got + ", due is " + want);
-        }
-    }
-
-    private static void due(String what, boolean got, boolean want) {
-        due(what, got ? 1 : 0, want ? 1 : 0);
-    }
-
-    private static void refused(String what, Class<? extends RuntimeException> kind, Call call) {
-        checked++;
-        String got;
-        try {
-            got = String.valueOf(call.answer());
-        } catch (RuntimeException e) {
-            got = e.getClass().getName();
-        }
-        if (!got.equals(kind.getName())) {
-            wrong++;
-            System.out.println("promise " + promise + ": " + what + " answered " + got + ", due is " + kind.getName());
-        }
-    }
-
-    private static void noSuch(String what, Call call) {
-        refused(what, NoSuchElementException.class, call);
-    }
-
-    private static void illegal(String what, Call call) {
-        refused(what, IllegalArgumentException.class, call);
-    }
-
-    private static int tell(EbbIsland x, String text) {
-        byte[] bytes = text.getBytes(StandardCharsets.ISO_8859_1);
-        for (int i = 0; i < bytes.length; i += 20) {
-            int[] f = new int[5];
-            for (int k = 0; k < 20; k++) {
-                int b = i + k < bytes.length ? bytes[i + k] & 255 : '#';
-                f[k / 4] = f[k / 4] << 8 | b;
-            }
-            x.feed(f[0], f[1], f[2], f[3], f[4]);
-        }
-        return x.island(bytes.length);
-    }
-
-    private static EbbIsland of(String text) {
-        EbbIsland x = new EbbIsland();
-        due("island of " + text, tell(x, text), 0);
-        return x;
+        says("Promise 1: A new object", PromisesTest::newObject);
+        says("Promise 2: feed", PromisesTest::feed);
+        says("Promise 3: island", PromisesTest::island);
+        says("Promise 4: fault", PromisesTest::fault);
+        says("Promise 5: count", PromisesTest::count);
+        says("Promise 6: cell", PromisesTest::cell);
+        says("Promise 7: quick", PromisesTest::quick);
+        says("Promise 8: water", PromisesTest::water);
+        says("Promise 9: party", PromisesTest::party);
+        says("Promise 10: may", PromisesTest::may);
+        says("Promise 11: cross", PromisesTest::cross);
+        says("Promise 12: way", PromisesTest::way);
+        says("Promise 13: starts", PromisesTest::starts);
+        says("Promise 14: book", PromisesTest::book);
+        says("Promise 15: undo", PromisesTest::undo);
+        says("Promise 16: booked", PromisesTest::booked);
+        says("Promise 17: at", PromisesTest::at);
+        says("Promise 18: met", PromisesTest::met);
+        says("Promise 19: crowded", PromisesTest::crowded);
+        says("Promise 20: leave", PromisesTest::leave);
+        says("Promise 21: burials", PromisesTest::burials);
+        says("Promise 22: buried", PromisesTest::buried);
+        says("Promise 23: queue", PromisesTest::queue);
+        says("Promise 24: heir", PromisesTest::heir);
+        says("Promise 25: sink", PromisesTest::sink);
+        says("Promise 26: forget", PromisesTest::forget);
+        says("Promise 27: motions", PromisesTest::motions);
+        says("Promise 28: sound", PromisesTest::sound);
+        says("Promise 29: late", PromisesTest::late);
+        says("Promise 30: costs", PromisesTest::costs);
+        says("Promise 31: vigil", PromisesTest::vigil);
+        says("Promise 32: rents", PromisesTest::rents);
+        says("Promise 33: warning", PromisesTest::warning);
+        says("Promise 34: fogs", PromisesTest::fogs);
+        says("Promise 35: image", PromisesTest::image);
+        says("Promise 36: restore", PromisesTest::restore);
+        end("PromisesTest");
     }
 
     private static void newObject() {
@@ -166,28 +118,12 @@ public final class PromisesTest {
 
     private static void signs() {
         due("blanks and no blanks", tell(new EbbIsland(), " \n sands3 1 ;\nwind 0009;moves- 2-1;\n"), 0);
-        due("of each 12", tell(new EbbIsland(), "sands 9 7;" + cells("rock", 12, 1) + cells("ladder", 12, 3) + cells("quick", 12, 0)), 0);
+        due("of each 12", tell(new EbbIsland(), "sands 9 7;" + marks("rock", 12, 1) + marks("ladder", 12, 3) + marks("quick", 12, 0)), 0);
         due("six parties and quarrels", tell(new EbbIsland(), "walk 1 0 0 0;".repeat(6)
                 + "quarrel 0 1;quarrel 0 2;quarrel 0 3;quarrel 0 4;quarrel 0 5;quarrel 1 2;"), 0);
         due("what is on each may be told", tell(new EbbIsland(), "height 1 1 3;rock 1 1;quick 1 1;height 0 0 9;quick 0 0;quick 5 3;"), 0);
         due("five parentheses, six nots", tell(new EbbIsland(), "water (((((not not not not not not 1)))));"), 0);
         due("nots apart", tell(new EbbIsland(), "water not not not not (not not not 1) and not not not not not not 1;"), 0);
-    }
-
-    /** n marks in rows of four columns, from a column on. */
-    private static String cells(String word, int n, int column) {
-        StringBuilder b = new StringBuilder();
-        for (int i = 0; i < n; i++) {
-            b.append(word).append(' ').append(column + i % 2).append(' ').append(i / 2).append(';');
-        }
-        return b.toString();
-    }
-
-    private static void faulty(String text, int number, int place) {
-        EbbIsland x = new EbbIsland();
-        due("island of " + text, tell(x, text), number);
-        due("fault of " + text, x.fault(), place);
-        due("status of " + text, x.count(13), 1);
     }
 
     private static void fault() {
@@ -282,9 +218,9 @@ public final class PromisesTest {
         faulty("fog 0 0 0 0;", 2, 10);
         faulty("fog 0 10 0 0;", 2, 6);
         faulty("quarrel 10000 0;", 2, 8);
-        faulty("sands 9 7;" + cells("rock", 12, 1) + "rock 1 1;", 2, 118);
-        faulty("sands 9 7;" + cells("ladder", 12, 1) + "ladder;", 2, 142);
-        faulty("sands 9 7;" + cells("quick", 12, 1) + "quick 9 9;", 2, 130);
+        faulty("sands 9 7;" + marks("rock", 12, 1) + "rock 1 1;", 2, 118);
+        faulty("sands 9 7;" + marks("ladder", 12, 1) + "ladder;", 2, 142);
+        faulty("sands 9 7;" + marks("quick", 12, 1) + "quick 9 9;", 2, 130);
         faulty("walk 1 1 1 1;".repeat(6) + "run", 2, 78);
         faulty("walk 1 1 1 1;".repeat(6) + "quarrel 0 1;quarrel 0 2;quarrel 0 3;quarrel 0 4;quarrel 0 5;quarrel 1 2;quarrel", 2, 150);
         faulty("water ((((((1))))));", 2, 12);
@@ -346,11 +282,6 @@ public final class PromisesTest {
         noSuch("day -1", () -> x.quick(0, -1) ? 1 : 0);
         noSuch("cell 15", () -> x.quick(15, 0) ? 1 : 0);
         noSuch("cell -1", () -> x.quick(-1, 0) ? 1 : 0);
-    }
-
-    private static void worth(String expr, int day, int tick, int want) {
-        EbbIsland x = of("wind 6;water " + expr + ";");
-        due("water " + expr, x.water(day, tick), want);
     }
 
     private static void water() {
