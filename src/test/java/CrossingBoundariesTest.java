@@ -238,10 +238,7 @@ public final class CrossingBoundariesTest extends Checks {
                 + "height 2 4 0;height 3 0 0;height 3 1 0;height 3 2 0;height 3 4 0;walk 1 1 2 0;");
         // East, east, south, east, east: the only way.
         due("a bend", bend.cross(0, 0, 0), 5);
-        int[] cells = {10, 11, 12, 17, 18, 19};
-        for (int i = 0; i < cells.length; i++) {
-            due("bend " + i, bend.way(i), cells[i]);
-        }
+        wayIs(bend, 10, 11, 12, 17, 18, 19);
     }
 
     private static void stepTicks() {
@@ -277,12 +274,28 @@ public final class CrossingBoundariesTest extends Checks {
         due("it may be there in the next one", dry.cross(0, 0, 0), 6);
         due("from tick 3 on", dry.cross(0, 0, 3), 6);
         due("from tick 4 on", dry.cross(0, 0, 4), NONE);
-        due("it may not", of(text + "water 4+(tick=4)*5-(tick=5)*4;").cross(0, 0, 0), NONE);
+        due("the last start", dry.starts(0, 0, 2), 3);
+        EbbIsland flood = of(text + "water 4+(tick=4)*5-(tick=5)*4;");
+        due("it may not", flood.cross(0, 0, 0), NONE);
+        due("so there are no starts", flood.starts(0, 0, 0), 0);
+        due("nor is it late", flood.late(0, 0, 0), NONE);
+        // One must stand on the rock in tick 4, though to wait on the sand in the north would be first.
+        EbbIsland rock = of("sands 4 2;height 1 0 5;rock 1 1;height 2 0 3;height 2 1 3;walk 1 1 1 0;water 4+(tick=4)*5-(tick=5)*4;");
+        due("on a rock", rock.cross(0, 0, 0), 6);
+        wayIs(rock, 4, 0, 0, 1, 5, 6, 7);
+        due("from tick 3 on", rock.starts(0, 0, 2), 3);
         EbbIsland ashore = of("sands 3 1;walk 1 1 0 0;water (tick<94)*20;");
         due("ashore by any water", ashore.cross(0, 0, 0), 95);
         due("a way of all ticks", ashore.way(NONE), 96);
         due("its last tick", ashore.way(95), 2);
         due("its last wait", ashore.way(93), 0);
+    }
+
+    private static void wayIs(EbbIsland x, int... cells) {
+        due("ticks of the way", x.way(NONE), cells.length);
+        for (int i = 0; i < cells.length; i++) {
+            due("way " + i, x.way(i), cells[i]);
+        }
     }
 
     private static void inItsRow() {
@@ -316,25 +329,20 @@ public final class CrossingBoundariesTest extends Checks {
     private static void firstWay() {
         EbbIsland x = of("sands 4 3;water 0;walk 1 1 1 0;");
         due("straight", x.cross(0, 0, 0), 3);
-        int[] straight = {4, 5, 6, 7};
-        for (int i = 0; i < 4; i++) {
-            due("straight " + i, x.way(i), straight[i]);
-        }
+        wayIs(x, 4, 5, 6, 7);
+        // North along the shore, as that is first, while it waits for the ebb.
         EbbIsland y = of("sands 3 3;walk 1 1 1 0;water (tick<4)*9;");
         due("it waits for the ebb", y.cross(0, 0, 0), 5);
-        int[] north = {3, 0, 0, 0, 1, 2};
-        for (int i = 0; i < north.length; i++) {
-            due("north, as it is first, " + i, y.way(i), north[i]);
-        }
+        wayIs(y, 3, 0, 0, 0, 1, 2);
         EbbIsland z = of("sands 3 3;walk 2 1 1 0;water (tick<4)*9;");
         due("by steps of two ticks", z.cross(0, 0, 0), 7);
-        int[] two = {3, 0, 0, 0, 1, 1, 2, 2};
-        for (int i = 0; i < two.length; i++) {
-            due("north by two ticks, " + i, z.way(i), two[i]);
-        }
+        wayIs(z, 3, 0, 0, 0, 1, 1, 2, 2);
+        EbbIsland u = of("sands 3 3;walk 2 1 2 0;water (tick<8)*9;");
+        due("by two steps north", u.cross(0, 0, 0), 11);
+        wayIs(u, 6, 3, 3, 0, 0, 0, 0, 0, 1, 1, 2, 2);
         EbbIsland v = of("sands 3 3;walk 4 1 1 0;water (tick<4)*9;");
         due("by steps of four ticks", v.cross(0, 0, 0), 11);
-        due("no time for the north", v.way(3), 3);
+        wayIs(v, 3, 3, 3, 3, 4, 4, 4, 4, 5, 5, 5, 5);
     }
 
     private static void cannot() {
@@ -954,7 +962,7 @@ public final class CrossingBoundariesTest extends Checks {
         x.undo();
         x.book(2, 2, 9);
         x.forget();
-        x.sink(1, 1, true);
+        x.sink(0, 40, true);
         x.sink(2, 2, false);
         due("restored", x.restore(), true);
         due("all as it was", look(x), then);

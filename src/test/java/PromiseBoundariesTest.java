@@ -32,6 +32,7 @@ public final class PromiseBoundariesTest extends Checks {
         says("The tape's first n bytes (it is empty then) are an ISLAND, all anew", PromiseBoundariesTest::firstBytes);
         says("0, or the FAULT (all stays, but STATUS).", PromiseBoundariesTest::allStays);
         says("What is BOOKED, SANK, rows that are kept, the image are gone.", PromiseBoundariesTest::allGone);
+        says("are an ISLAND, all anew", PromiseBoundariesTest::allAnew);
         says("IllegalArgumentException: the tape has not so many, n below 0 (nothing changes).",
                 PromiseBoundariesTest::notSoMany);
         says("The place of the latest island()'s FAULT; NONE without.", PromiseBoundariesTest::latestFault);
@@ -382,6 +383,56 @@ public final class PromiseBoundariesTest extends Checks {
         due("so it looks", look(y), look(new EbbIsland()));
         due("its cells", y.cell(10, 1) * 100 + y.cell(20, 1) * 10 + y.cell(21, 0), 4);
         due("its water", y.water(3, 3), 0);
+    }
+
+    /** Whatever was told before, or was begun and had a fault: a text tells what it tells to a new object. */
+    private static void allAnew() {
+        String all = "sands 9 7;height 1 1 9;height 2 2 9;rock 3 3;ladder 4 4;quick 1 1;quick 2 2;moves 2 -1;wind 9;ebb 6;wait 20;"
+                + "fog 0 9 9 9;walk 4 9 6 20;horse 4 9 6 20;quarrel 0 1;stilts 4 9 6 20;run 4 9 6 20;quarrel 2 3;water 20";
+        String next = "sands 4 2;height 1 1 5;rock 2 1;quick 1 1;walk 1 1 0 0;walk 1 1 1 0;walk 1 1 0 2;";
+        String[] faults = {all, all + "+", all + "<(not 1 and (2*(3", all + "+not", all + " and not not", all + " or (",
+            all + ";sands 9 7;", all + ";quarrel 0 1;", all + ";water 1;", all + ";run 5"};
+        String want = seen(of(next));
+        String wantRule = seen(of(next + "water (day<3)*4+hour/3;"));
+        for (String fault : faults) {
+            EbbIsland x = new EbbIsland();
+            due("no fault in " + fault, tell(x, fault) != 0, true);
+            due("an island behind a fault", tell(x, next + "water (day<3)*4+hour/3;"), 0);
+            due("as a new one behind " + fault, seen(x), wantRule.replace("status 0", "status 1"));
+            due("another one", tell(x, next), 0);
+            due("as a new one behind an island", seen(x), want.replace("status 0", "status 1"));
+        }
+        EbbIsland y = of(all + ";");
+        for (int i = 0; i < 2; i++) {
+            due("one", tell(y, next), 0);
+            due("as a new one", seen(y), want);
+            due("the other one", tell(y, all + ";"), 0);
+        }
+    }
+
+    /** What an island is and who crosses it, asked for so that all that is kept of one is needed. */
+    private static String seen(EbbIsland x) {
+        StringBuilder b = new StringBuilder("status " + x.count(13));
+        for (int what = 0; what < 10; what++) {
+            b.append(' ').append(x.count(what));
+        }
+        for (int cell = 0; cell < 8; cell++) {
+            b.append(" cell ").append(x.cell(cell, 0)).append(x.cell(cell, 1)).append(x.quick(cell, 0)).append(x.quick(cell, 1));
+        }
+        b.append(" burials ").append(x.burials());
+        for (int party = 0; party < x.count(8); party++) {
+            b.append(" party");
+            for (int what = 0; what < 6; what++) {
+                b.append(' ').append(x.party(party, what));
+            }
+            b.append(" heir ").append(x.heir(party)).append(" queue ").append(x.queue(party)).append(" crosses ");
+            for (int day = 0; day < 4; day++) {
+                b.append(' ').append(x.starts(party, day, 3)).append(' ').append(x.starts(party, day, 2)).append(' ').append(x.cross(party, day, 9));
+            }
+            b.append(" vigil ").append(x.vigil(party, 3, 0, 2)).append(" fogs ").append(x.fogs(party, 0, 1, 9));
+            b.append(" warning ").append(x.warning(party, 3, 80));
+        }
+        return b.append(" water ").append(x.water(0, 0)).append(' ').append(x.water(3, 50)).append(" motions ").append(x.sound(1, true)).toString();
     }
 
     private static void notSoMany() {

@@ -147,6 +147,10 @@ public final class TextBoundariesTest extends Checks {
         faulty("rock 1 2;ladder 1 2;", 4, 18);
         faulty("ladder 1 2;rock 1 2;", 4, 18);
         faulty("ladder 1 2;ladder 1 2;", 4, 20);
+        faulty("rock 1 2;rock 2 2;ladder 3 2;ladder 4 2;rock 1 2;", 4, 47);
+        faulty("rock 1 2;rock 2 2;ladder 3 2;ladder 4 2;rock 3 2;", 4, 47);
+        faulty("rock 1 2;rock 2 2;ladder 3 2;ladder 4 2;ladder 1 2;", 4, 49);
+        faulty("rock 1 2;rock 2 2;ladder 3 2;ladder 4 2;ladder 3 2;", 4, 49);
         holds("rock 1 2;ladder 2 1;rock 2 2;ladder 1 1;");
         holds("quick 1 2;rock 1 2;height 1 2 3;");
         holds("quick 1 2;ladder 1 2;height 1 2 3;");
@@ -303,6 +307,33 @@ public final class TextBoundariesTest extends Checks {
         faulty("wind_ 9;", 1, 4);
         faulty("wind 9;zzz;", 1, 7);
         faulty("wind 9;a;", 1, 7);
+        for (String word : new String[] {"a", "z", "az", "za", "hourz", "houra", "zhour", "tickz"}) {
+            faulty("water " + word + ";", 3, 6);
+        }
+        String[] lines = {"height 1 1 1;", "rock 1 1;", "ladder 1 1;", "quick 1 1;", "moves 1 1;", "wind 1;", "ebb 1;", "wait 1;",
+            "walk 1 1 1 1;", "horse 1 1 1 1;", "stilts 1 1 1 1;", "run 1 1 1 1;", "fog 1 1 1 1;", "water 1;", "sands 3 1;"};
+        for (String line : lines) {
+            holds(line);
+            spelledWrong("", line.substring(0, line.indexOf(' ')), line.substring(line.indexOf(' ')), 1);
+        }
+        spelledWrong("walk 1 1 1 1;walk 1 1 1 1;", "quarrel", " 0 1;", 1);
+        for (String value : new String[] {"hour", "tick", "day", "wind"}) {
+            holds("water " + value + ";");
+            spelledWrong("water ", value, ";", 3);
+        }
+        spelledWrong("water ", "not", " 1;", 3);
+        spelledWrong("water 1 ", "or", " 1;", 1);
+        spelledWrong("water 1 ", "and", " 1;", 1);
+    }
+
+    /** A word of which one letter is another, lacks or is too much is another word. */
+    private static void spelledWrong(String ahead, String word, String behind, int fault) {
+        for (int i = 0; i < word.length(); i++) {
+            faulty(ahead + word.substring(0, i) + "z" + word.substring(i + 1) + behind, fault, ahead.length());
+            faulty(ahead + word.substring(0, i) + "z" + word.substring(i) + behind, fault, ahead.length());
+            faulty(ahead + word.substring(0, i) + word.substring(i + 1) + behind, fault, ahead.length());
+        }
+        faulty(ahead + word + "z" + behind, fault, ahead.length());
     }
 
     private static void digits() {
@@ -706,6 +737,7 @@ public final class TextBoundariesTest extends Checks {
         faulty("height 1 2 3;height 1 2 12;", 4, 22);
         faulty("height 0 0 4;height 0 0 5;", 4, 22);
         faulty("sands 9 7;height 8 6 4;height 8 6 5;", 4, 32);
+        faulty("height 1 2 3;height 2 1 3;height 0 0 1;height 1 2 3;", 4, 48);
         holds("height 1 2 3;height 2 1 3;rock 1 2;quick 1 2;");
         holds("rock 1 2;quick 1 2;height 1 2 3;");
     }
@@ -729,6 +761,7 @@ public final class TextBoundariesTest extends Checks {
         faulty(two + "quarrel 0 1;", 4, two.length() + 10);
         faulty(two + "quarrel 1 0;", 4, two.length() + 10);
         faulty(SIX + "quarrel 5 4;quarrel 4 5;", 4, SIX.length() + 22);
+        faulty(SIX + "quarrel 0 1;quarrel 0 2;quarrel 3 0;quarrel 1 0;", 4, SIX.length() + 46);
     }
 
     private static void second() {
