@@ -65,12 +65,15 @@ public final class CrossingBoundariesTest extends Checks {
         says("of like ones the first as a row of DAYS by PARTIES;", CrossingBoundariesTest::firstRowOfDays);
         says("none, if it can't be. (What is BOOKED isn't asked.)", CrossingBoundariesTest::noBurials);
         says("DAY by DAY from 0 to 40", CrossingBoundariesTest::queueDays);
+        says("of PARTIES whose dead died by then and who aren't buried those who can cross on it",
+                CrossingBoundariesTest::queuedOnes);
         says("in the order of haste (who died first, of like ones the least)", CrossingBoundariesTest::haste);
         says("as many as EBB says, none who QUARRELS with one ahead of it on that DAY",
                 CrossingBoundariesTest::queueFull);
         says("by the DAY on which he died, or, where it can't cross on that, the next on which it can (up to 40)",
                 CrossingBoundariesTest::heirsByDay);
         says("then the soonest TICK that it ARRIVES, then the least", CrossingBoundariesTest::heirsByTick);
+        says("which is the how manieth; none, if it never can.", CrossingBoundariesTest::noHeirs);
     }
 
     private static void sands() {
@@ -95,6 +98,7 @@ public final class CrossingBoundariesTest extends Checks {
                 + "likewise (0 by 1 without).", CrossingBoundariesTest::mean);
         says("the fewest who, left ashore, leave none TOO MANY (of like ones the least as bits of PARTIES).",
                 CrossingBoundariesTest::fewestLeft);
+        says("horses and stilts are let for 1 to 9 each;", CrossingBoundariesTest::rentsOfAll);
         says("the cheaper one, of like ones horses; none, if neither does;", CrossingBoundariesTest::cheaper);
         says("with its SPEED, LOAD and ROW)", CrossingBoundariesTest::asTold);
         says("A couple RESTS, if neither owner gains more by another rent", CrossingBoundariesTest::couples);
@@ -337,6 +341,10 @@ public final class CrossingBoundariesTest extends Checks {
         EbbIsland z = of("sands 3 3;walk 2 1 1 0;water (tick<4)*9;");
         due("by steps of two ticks", z.cross(0, 0, 0), 7);
         wayIs(z, 3, 0, 0, 0, 1, 1, 2, 2);
+        // It waits ashore rather than on the sand, as that is first, where there is no time for the north.
+        EbbIsland w = of("sands 4 2;height 1 0 0;height 2 0 0;height 1 1 5;height 2 1 3;walk 1 1 1 0;water (tick<3)*4;");
+        due("it waits for the second cell", w.cross(0, 0, 0), 4);
+        wayIs(w, 4, 4, 5, 6, 7);
         EbbIsland u = of("sands 3 3;walk 2 1 2 0;water (tick<8)*9;");
         due("by two steps north", u.cross(0, 0, 0), 11);
         wayIs(u, 6, 3, 3, 0, 0, 0, 0, 0, 1, 1, 2, 2);
@@ -585,6 +593,13 @@ public final class CrossingBoundariesTest extends Checks {
         queueIs("sands 3 1;water (day<40)*9;wait 0;walk 1 1 0 0;", 40);
     }
 
+    private static void queuedOnes() {
+        // On day 1 the first one died, on day 2 he is buried; the horse never crosses and holds nobody up.
+        queueIs("sands 3 1;water (day=1)*9;ebb 1;walk 1 1 0 1;horse 1 9 0 0;walk 1 1 0 2;walk 1 1 0 0;", 2, NONE, 3, 0);
+        // The sand is quick on day 0 for who has a load.
+        queueIs(DRY + "quick 1 0;moves 1 0;walk 1 1 0 0;walk 1 0 0 0;", 1, 0);
+    }
+
     private static void haste() {
         queueIs(DRY + "ebb 1;walk 1 1 0 2;walk 1 1 0 1;walk 1 1 0 2;walk 1 1 0 0;", 2, 1, 3, 0);
         queueIs("sands 3 1;water (day<20)*9;ebb 1;walk 1 1 0 20;walk 1 1 0 7;walk 1 1 0 0;walk 1 1 0 7;", 23, 21, 20, 22);
@@ -620,6 +635,13 @@ public final class CrossingBoundariesTest extends Checks {
         heirsAre(DRY + "walk 4 1 0 0;walk 3 1 0 0;walk 2 1 0 0;walk 1 1 0 0;run 4 1 0 0;run 2 1 0 0;", 5, 4, 2, 0, 3, 1);
         heirsAre(DRY + "walk 1 1 0 0;".repeat(6), 0, 1, 2, 3, 4, 5);
         heirsAre(DRY + "walk 1 1 0 1;walk 4 1 0 0;", 1, 0);
+    }
+
+    private static void noHeirs() {
+        // Who never can takes no place ahead of the others.
+        heirsAre(DRY + "horse 1 9 0 0;walk 1 1 0 3;horse 1 9 0 0;walk 1 1 0 2;", NONE, 1, NONE, 0);
+        heirsAre("sands 3 1;water (day<41)*9;walk 1 1 0 20;", NONE);
+        heirsAre("sands 3 1;water 9-(tick=95)*9;walk 1 1 0 0;", NONE);
     }
 
     private static void mostSank() {
@@ -822,6 +844,12 @@ public final class CrossingBoundariesTest extends Checks {
         due("first of " + text, x.rents(0, 0, 1), first);
     }
 
+    private static void rentsOfAll() {
+        // Where nobody takes either, all nine by nine rest; where stilts alone are taken, they are let for 9 by any rent of horses.
+        rentsAre("", 81, 11);
+        rentsAre(DRY + "walk 1 9 0 0;", 9, 19);
+    }
+
     private static void cheaper() {
         // Whoever can take both is had by the cheaper owner, and by horses of like ones: only 1 by 1 rests.
         rentsAre(DRY + "walk 1 0 0 0;", 1, 11);
@@ -954,7 +982,7 @@ public final class CrossingBoundariesTest extends Checks {
         EbbIsland x = of(DRY + "ebb 6;walk 1 1 0 0;walk 1 1 0 0;walk 1 1 0 0;quick 1 0;moves 1 0;");
         x.book(0, 1, 0);
         x.book(1, 1, 5);
-        x.sink(1, 1, false);
+        x.sink(2, 1, true);
         x.book(1, 1, 5);
         String then = look(x);
         x.image();
@@ -962,7 +990,7 @@ public final class CrossingBoundariesTest extends Checks {
         x.undo();
         x.book(2, 2, 9);
         x.forget();
-        x.sink(0, 40, true);
+        x.sink(0, 2, false);
         x.sink(2, 2, false);
         due("restored", x.restore(), true);
         due("all as it was", look(x), then);

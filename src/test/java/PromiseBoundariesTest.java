@@ -25,6 +25,7 @@ public final class PromiseBoundariesTest extends Checks {
     }
 
     private static void texts() {
+        says("`NONE = -1`: There is none.", () -> due("NONE", EbbIsland.NONE, -1));
         says("All as without, no PARTIES.", PromiseBoundariesTest::newObject);
         says("Twenty bytes come behind the tape, of each number the highest first: how many it has;",
                 PromiseBoundariesTest::bytes);
@@ -561,6 +562,10 @@ public final class PromiseBoundariesTest extends Checks {
         y.book(0, 0, 0);
         tell(y, "x");
         due("they stay", y.buried(0) * 10 + y.buried(1), 0);
+        due("told anew", tell(y, "sands 3 1;water (day<3)*9;wait 4;walk 1 1 0 0;walk 1 1 0 0;"), 0);
+        noSuch("they are gone", () -> y.buried(0));
+        due("one again", y.burials(), 1);
+        due("by the new island alone", y.buried(0) * 10 + y.buried(1), 33);
         EbbIsland z = of("sands 3 1;water 9;walk 1 1 0 0;");
         due("it can't be", z.burials(), NONE);
         noSuch("none are kept", () -> z.buried(0));

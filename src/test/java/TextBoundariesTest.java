@@ -43,6 +43,7 @@ public final class TextBoundariesTest extends Checks {
         says("signs ; ( ) + - * / < = ;", TextBoundariesTest::signs);
         says("blanks (32, 10) between them count for nothing", TextBoundariesTest::blanks);
         says("ISLAND: ['sands' W H ';'] LINE*.", TextBoundariesTest::emptyTexts);
+        says("all in capitals but SIGNED, EXPR being NUMBERS;", TextBoundariesTest::numbersOfLines);
         says("SIGNED: ['-'] NUMBER.", TextBoundariesTest::signed);
     }
 
@@ -388,6 +389,26 @@ public final class TextBoundariesTest extends Checks {
         faulty("sands;", 1, 5);
     }
 
+    /** A line with a number too few or too many, or with something else in place of one. */
+    private static void numbersOfLines() {
+        String[] lines = {"height 1 1 1", "rock 1 1", "ladder 1 1", "quick 1 1", "moves 1 1", "wind 1", "ebb 1", "wait 1",
+            "walk 1 1 1 1", "horse 1 1 1 1", "stilts 1 1 1 1", "run 1 1 1 1", "quarrel 0 1", "fog 1 1 1 1", "sands 3 1"};
+        for (String line : lines) {
+            String ahead = line.startsWith("quarrel") ? "walk 1 1 1 1;walk 1 1 1 1;" : "";
+            int length = ahead.length() + line.length();
+            holds(ahead + line + ";");
+            faulty(ahead + line, 1, length);
+            faulty(ahead + line + " 1;", 1, length + 1);
+            faulty(ahead + line + " " + line + ";", 1, length + 1);
+            faulty(ahead + line.substring(0, line.length() - 2) + ";", 1, length - 2);
+            for (int i = line.indexOf(' ') + 1; i < line.length(); i += 2) {
+                for (String other : new String[] {"one", ";", "(1)", "+1", "#"}) {
+                    faulty(ahead + line.substring(0, i) + other + line.substring(i + 1) + ";", 1, ahead.length() + i);
+                }
+            }
+        }
+    }
+
     private static void signed() {
         due("-0", of("moves -0 0;").count(3), 0);
         due("- 2", of("moves 0 -\n2;").count(4), -2);
@@ -424,6 +445,10 @@ public final class TextBoundariesTest extends Checks {
         faulty("water 1<2<3;", 1, 9);
         faulty("water 1=1=1;", 1, 9);
         faulty("water 1<2=1;", 1, 9);
+        faulty("water (1<2<3);", 1, 10);
+        faulty("water (((((1<2=3)))));", 1, 14);
+        faulty("water (1<2)<(1=2)<1;", 1, 17);
+        worth("(1<2)<((1<2)+(1<2))", 1);
         worth("(1<2)=1", 1);
         worth("1<2 and 2<3", 1);
         worth("1<2 or 3<2", 1);
