@@ -463,7 +463,10 @@ public final class CrossingBoundariesTest extends Checks {
         due("each on one of its own", x.crowded(0), NONE);
         x.book(1, 0, 1);
         due("two in one tick", x.crowded(0), 2);
+        due("one is to be left", x.leave(0), 1);
         x.undo();
+        due("who is undone isn't there", x.crowded(0), NONE);
+        due("nobody is to be left then", x.leave(0), 0);
         x.book(1, 0, 2);
         due("one behind the other", x.crowded(0), NONE);
         x.undo();

@@ -403,6 +403,12 @@ public final class PromiseBoundariesTest extends Checks {
             due("another one", tell(x, next), 0);
             due("as a new one behind an island", seen(x), want.replace("status 0", "status 1"));
         }
+        EbbIsland rule = new EbbIsland();
+        for (String longer : new String[] {"not 1", "not not 0", "1 and 0", "3*0", "7<2"}) {
+            tell(rule, "water " + longer + ";x");
+            due("a shorter rule behind " + longer, tell(rule, "water 5;"), 0);
+            due("is that alone", rule.water(0, 0), 5);
+        }
         EbbIsland y = of(all + ";");
         for (int i = 0; i < 2; i++) {
             due("one", tell(y, next), 0);

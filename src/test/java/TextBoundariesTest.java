@@ -715,6 +715,10 @@ public final class TextBoundariesTest extends Checks {
         worth("(((((7)))))+(((((8)))))", 15);
         worth("(((((7+1)+1)+1)+1)+1)", 12);
         worth("1+(1+(1+(1+(1+(1)))))", 6);
+        // All that can wait for a part waits in each of the five parentheses.
+        String waits = "0 or 1 and not not not not not not 0<0+1*";
+        worth((waits + "(").repeat(5) + waits + "5" + ")".repeat(5), 1);
+        worth((waits + "(").repeat(5) + waits + "0" + ")".repeat(5), 0);
     }
 
     private static void seventhNot() {
