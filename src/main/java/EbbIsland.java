@@ -724,7 +724,7 @@ public final class EbbIsland {
 
         /** The cells whose sand bears a load on a day. */
         long firmFor(int load, int day) {
-            return load == 0 ? all : all & ~quickNow(day);
+            return load == 0 ? all : all & ~quickOn(day, moveX, moveY);
         }
 
         long safeFor(int kind, int load, int level, long firm) {
