@@ -4,7 +4,7 @@ import java.lang.reflect.Modifier;
 import java.nio.charset.StandardCharsets;
 import java.util.Arrays;
 
-/** Every call with every couple of edges as its arguments: answered as Oracle answers, and refused by a throw of the class itself. */
+/** Every call with edges as its arguments, each with each: answered as Oracle answers, and refused by a throw of the class itself. */
 public final class EdgesTest {
     private static final int[] EDGES = {Integer.MIN_VALUE, -1, 0, 1, 5, 6, 40, 41, 95, 96, Integer.MAX_VALUE};
     // Calls of many arguments take fewer edges, so that the couples of all stay few.
